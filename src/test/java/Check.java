@@ -1,0 +1,150 @@
+import java.util.Objects;
+
+/** Counts what is as due and prints what is not. */
+final class Check {
+    static int passed = 0;
+    static int failed = 0;
+
+    private Check() {
+    }
+
+    static void same(String what, Object got, Object want) {
+        if (Objects.equals(got, want)) {
+            passed++;
+        } else {
+            failed++;
+            System.out.println(what + " answered " + got + ", due is " + want);
+        }
+    }
+
+    static void isTrue(String what, boolean got) {
+        same(what, got, true);
+    }
+
+    static void range(String what, Runnable call) {
+        fails(what, IndexOutOfBoundsException.class, call);
+    }
+
+    static void argument(String what, Runnable call) {
+        fails(what, IllegalArgumentException.class, call);
+    }
+
+    static void state(String what, Runnable call) {
+        fails(what, IllegalStateException.class, call);
+    }
+
+    static void element(String what, Runnable call) {
+        fails(what, java.util.NoSuchElementException.class, call);
+    }
+
+    private static void fails(String what, Class<?> kind, Runnable call) {
+        Object got = "nothing thrown";
+        try {
+            call.run();
+        } catch (RuntimeException e) {
+            got = e.getClass();
+        }
+        same(what, got, kind);
+    }
+
+    /** Puts the text into the input buffer, which must be empty. */
+    static void type(CrateScale x, String text) {
+        byte[] padded = new byte[(text.length() + 19) / 20 * 20];
+        for (int i = 0; i < text.length(); i++) {
+            padded[i] = (byte) text.charAt(i);
+        }
+        for (int i = 0; i < padded.length; i += 20) {
+            x.appendInput(word(padded, i), word(padded, i + 4), word(padded, i + 8), word(padded, i + 12),
+                word(padded, i + 16));
+        }
+        x.truncateInput(text.length());
+    }
+
+    private static int word(byte[] bytes, int at) {
+        return (bytes[at] & 255) << 24 | (bytes[at + 1] & 255) << 16 | (bytes[at + 2] & 255) << 8 | bytes[at + 3] & 255;
+    }
+
+    static int load(CrateScale x, String text) {
+        type(x, text);
+        return x.loadYard();
+    }
+
+    static int run(CrateScale x, String text) {
+        type(x, text);
+        return x.runScript();
+    }
+
+    static CrateScale yard(String text) {
+        CrateScale x = new CrateScale();
+        if (load(x, text) == CrateScale.NONE) {
+            throw new IllegalArgumentException("the test's own setup has an error: " + text);
+        }
+        return x;
+    }
+
+    static void weighOften(CrateScale x, int crate, int times) {
+        for (int i = 0; i < times; i++) {
+            x.weigh(crate);
+        }
+    }
+
+    static void loadError(String text, int code, int offset) {
+        CrateScale x = new CrateScale();
+        same("load of \"" + text + "\"", load(x, text), CrateScale.NONE);
+        same("error code of \"" + text + "\"", x.errorCode(), code);
+        same("error offset of \"" + text + "\"", x.errorOffset(), offset);
+        same("crates after \"" + text + "\"", x.crateCount(), 4);
+    }
+
+    static void scriptError(String text, int code, int offset) {
+        CrateScale x = new CrateScale();
+        same("run of \"" + text + "\"", run(x, text), CrateScale.NONE);
+        same("error code of \"" + text + "\"", x.errorCode(), code);
+        same("error offset of \"" + text + "\"", x.errorOffset(), offset);
+        element("undo after the script \"" + text + "\"", () -> x.undo());
+    }
+
+    static String output(CrateScale x) {
+        StringBuilder text = new StringBuilder();
+        for (int i = 0; x.outputByte(i) != CrateScale.NONE; i++) {
+            text.append((char) x.outputByte(i));
+        }
+        return text.toString();
+    }
+
+    static String tree(CrateScale x, int crate) {
+        int length = x.writeTree(crate);
+        String text = output(x);
+        same("length of " + text, length, text.length());
+        return text;
+    }
+
+    /** All that the object shows of its yard, for comparing two moments. */
+    static String view(CrateScale x) {
+        StringBuilder text = new StringBuilder();
+        for (int c = 0; c < x.crateCount(); c++) {
+            text.append("crate ").append(x.tareOf(c)).append(' ').append(x.goodsOf(c)).append(' ').append(x.grossOf(c));
+            text.append(" in ").append(x.parentOf(c)).append(' ').append(x.isInYard(c)).append(" holds");
+            for (int i = 0; i < x.childCount(c); i++) {
+                text.append(' ').append(x.childOf(c, i));
+            }
+            text.append(" readings ").append(x.readingCount(c));
+            if (x.readingCount(c) > 0) {
+                text.append(' ').append(x.lastReading(c)).append(' ').append(x.exactMean(c));
+            }
+            if (x.isInYard(c)) {
+                text.append(" next ").append(x.predictReading(c)).append(' ').append(x.predictMean(c, 7));
+            }
+            text.append('\n');
+        }
+        for (int b = 0; b < x.buyerCount(); b++) {
+            text.append("buyer ").append(x.moneyOf(b)).append(' ').append(x.toleranceOf(b)).append(' ');
+            text.append(x.trustOf(b)).append(' ').append(x.purchasesOf(b)).append('\n');
+        }
+        text.append(x.amplitude()).append(' ').append(x.aging()).append(' ').append(x.requiredReadings()).append(' ');
+        text.append(x.requiredTrust()).append(' ').append(x.springAge()).append(" totals ").append(x.totalReadings());
+        text.append(' ').append(x.totalDiscarded()).append(' ').append(x.springsReplaced()).append(' ');
+        text.append(x.salesCount()).append(' ').append(x.totalPrices()).append(' ').append(x.totalRefunds());
+        return text.toString();
+    }
+}

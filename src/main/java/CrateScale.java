@@ -309,7 +309,7 @@ public final class CrateScale {
         Crate known = knownCrate(crate);
         Buyer customer = knownBuyer(buyer);
         requireState(yard.refusal(known, customer) == ACCEPTED);
-        return customer.trustAfter(known);
+        return customer.trustAfter(known.error());
     }
 
     public int totalReadings() {
@@ -693,19 +693,13 @@ public final class CrateScale {
             purchases = other.purchases;
         }
 
-        boolean tolerates(Crate crate) {
-            return crate.deviation() <= tolerance;
+        int trustAfter(int meanError) {
+            int excess = Math.abs(meanError) - tolerance;
+            return excess <= 0 ? Math.min(MAX_TRUST, trust + TRUST_GAIN) : Math.max(0, trust - excess);
         }
 
-        int trustAfter(Crate crate) {
-            if (tolerates(crate)) {
-                return Math.min(MAX_TRUST, trust + TRUST_GAIN);
-            }
-            return Math.max(0, trust - (crate.deviation() - tolerance));
-        }
-
-        int refundFor(Crate crate) {
-            return tolerates(crate) ? 0 : Math.max(0, crate.error());
+        int refundFor(int meanError) {
+            return meanError > tolerance ? meanError : 0;
         }
     }
 
@@ -1016,8 +1010,9 @@ public final class CrateScale {
 
         int trade(Crate crate, Buyer buyer) {
             int price = crate.price();
-            int refund = buyer.refundFor(crate);
-            buyer.trust = buyer.trustAfter(crate);
+            int meanError = crate.error();
+            int refund = buyer.refundFor(meanError);
+            buyer.trust = buyer.trustAfter(meanError);
             buyer.money += refund - price;
             buyer.purchases++;
             totals.sales++;
@@ -1167,8 +1162,6 @@ public final class CrateScale {
         void rewind() {
             errorCode = NO_ERROR;
             errorOffset = NONE;
-            kind = END;
-            start = 0;
             end = 0;
         }
 
@@ -1252,10 +1245,7 @@ public final class CrateScale {
             return name;
         }
 
-        int nextCrate(Yard yard) {
-            if (!nextName()) {
-                return NONE;
-            }
+        int indexOfCrate(Yard yard) {
             Crate crate = yard.crateNamed(name());
             if (crate == null) {
                 fail(UNKNOWN_NAME);
@@ -1264,10 +1254,7 @@ public final class CrateScale {
             return crate.index;
         }
 
-        int nextBuyer(Yard yard) {
-            if (!nextName()) {
-                return NONE;
-            }
+        int indexOfBuyer(Yard yard) {
             Buyer buyer = yard.buyerNamed(name());
             if (buyer == null) {
                 fail(UNKNOWN_NAME);
@@ -1353,7 +1340,7 @@ public final class CrateScale {
             Crate outer = null;
             text.advance();
             if (text.isWord("in")) {
-                if (!nextOuter()) {
+                if (!text.nextName() || !isOuter()) {
                     return false;
                 }
                 outer = draft.crateNamed(text.name());
@@ -1369,10 +1356,7 @@ public final class CrateScale {
             return true;
         }
 
-        private boolean nextOuter() {
-            if (!text.nextName()) {
-                return false;
-            }
+        private boolean isOuter() {
             Crate outer = draft.crateNamed(text.name());
             if (outer == null) {
                 return text.fail(UNKNOWN_NAME);
@@ -1541,17 +1525,17 @@ public final class CrateScale {
         }
 
         private boolean nextCrate(Text text, Yard yard) {
-            crate = text.nextCrate(yard);
+            crate = text.nextName() ? text.indexOfCrate(yard) : NONE;
             return crate != NONE;
         }
 
         private boolean nextOuter(Text text, Yard yard) {
-            outer = text.nextCrate(yard);
+            outer = text.nextName() ? text.indexOfCrate(yard) : NONE;
             return outer != NONE;
         }
 
         private boolean nextBuyer(Text text, Yard yard) {
-            buyer = text.nextBuyer(yard);
+            buyer = text.nextName() ? text.indexOfBuyer(yard) : NONE;
             return buyer != NONE;
         }
 
@@ -1568,31 +1552,33 @@ public final class CrateScale {
                     yard.scale.aging = number;
                     return true;
                 default:
-                    Crate known = yard.crateAt(crate);
-                    return known != null && known.inYard && executeOn(known, yard);
+                    break;
             }
-        }
-
-        private boolean executeOn(Crate known, Yard yard) {
+            Crate known = yard.crateAt(crate);
+            if (known == null || !known.inYard) {
+                return false;
+            }
             switch (verb) {
                 case WEIGH:
-                    for (int i = 0; i < number; i++) {
-                        yard.takeReading(known);
-                    }
-                    return true;
+                    return weighOften(known, number, yard);
                 case ADD:
                     return changeGoods(known.canTakeGoods(number), known, number, yard);
                 case REMOVE:
                     return changeGoods(known.canGiveGoods(number), known, -number, yard);
                 case MOVE:
-                    return move(known, yard.crateAt(outer), yard);
+                    return moveTo(yard.crateAt(outer), known, yard);
                 case TAKEOUT:
                     return takeFromParent(known, yard);
-                case SELL:
-                    return sellTo(yard.buyerAt(buyer), known, yard);
                 default:
-                    return false;
+                    return sellTo(yard.buyerAt(buyer), known, yard);
             }
+        }
+
+        private static boolean weighOften(Crate known, int times, Yard yard) {
+            for (int i = 0; i < times; i++) {
+                yard.takeReading(known);
+            }
+            return true;
         }
 
         private static boolean changeGoods(boolean isAllowed, Crate known, int weight, Yard yard) {
@@ -1602,7 +1588,7 @@ public final class CrateScale {
             return isAllowed;
         }
 
-        private static boolean move(Crate known, Crate into, Yard yard) {
+        private static boolean moveTo(Crate into, Crate known, Yard yard) {
             boolean isAllowed = into != null && yard.canNest(known, into);
             if (isAllowed) {
                 yard.nest(known, into);

@@ -127,7 +127,9 @@ final class BuyerPromises {
         CrateScale z = Check.yard("crate a 1 0;buyer p 9 9 0;noise 0;readings 1;");
         z.weigh(0);
         Check.same("no trust, and none required", z.bestBuyer(0), 0);
-        Check.same("no buyers", Check.yard("crate a 1 0;").bestBuyer(0), CrateScale.NONE);
+        CrateScale free = Check.yard("crate a 1 0;noise 50;seed 9999;readings 1;");
+        free.weigh(0);
+        Check.same("no buyers, and a price of 0", free.bestBuyer(0), CrateScale.NONE);
         Check.range("crate 3", () -> x.bestBuyer(3));
         Check.range("crate -1", () -> x.bestBuyer(-1));
     }

@@ -83,6 +83,17 @@ final class TextPromises {
         Check.same("gross of 0050 and 0500", x.grossOf(0), 550);
         Check.same("children stand in the order of the text", Check.load(x, "crate a 1 0;crate c 1 0 in a;crate b 1 0 in a;"), 3);
         Check.same("tree", Check.tree(x, 0), "a:3[c:1,b:1]");
+        Check.same("the least settings", Check.load(x, "noise 0;aging 1;readings 1;trust 0;seed 0;crate a 1 0;buyer a 0 0 0;"), 1);
+        Check.same("settings", x.amplitude() + " " + x.aging() + " " + x.requiredReadings() + " " + x.requiredTrust(), "0 1 1 0");
+        Check.load(x, "readings 9;crate a 1 0;");
+        Check.load(x, "noise 50;seed 0;crate a 1 0;crate b 1 0;crate c 1 0 in b;buyer a 7 7 7;buyer b 8 8 8;");
+        Check.same("required readings are 2 again", x.requiredReadings(), 2);
+        Check.same("seed 0: 74 mod 101 - 50", x.weigh(0), 1 + 24);
+        Check.load(x, "crate a 1 0;crate b 1 0;crate d 1 0;buyer b 9 9 9;");
+        Check.same("the seed is 1 again", x.weigh(0), 1 + 1);
+        Check.same("nothing is left in b", Check.tree(x, 1), "b:1");
+        Check.same("one buyer", x.averageTrust(), 9f);
+        Check.isTrue("consistent after loads", x.isConsistent());
         Check.same("no error after a right setup", x.errorCode() + " " + x.errorOffset(), "0 -1");
     }
 
@@ -131,6 +142,19 @@ final class TextPromises {
         Check.loadError("readings 10;", CrateScale.OUT_OF_RANGE, 9);
         Check.loadError("trust 101;", CrateScale.OUT_OF_RANGE, 6);
         Check.loadError("seed 10000;", CrateScale.SYNTAX, 5);
+        Check.loadError("crate a 1 0;buyer 5 1 1;", CrateScale.SYNTAX, 18);
+        Check.loadError("crate a 1 0;buyer abcdefg 1 1 1;", CrateScale.SYNTAX, 18);
+        Check.loadError("crate a 1 0;buyer a 1 1 1 1;", CrateScale.SYNTAX, 26);
+        Check.loadError("crate a 1 0;buyer a b 1 1;", CrateScale.SYNTAX, 20);
+        Check.loadError("crate a 1 0;trust;", CrateScale.SYNTAX, 17);
+        String[] words = {"crate", "buyer", "noise", "seed", "aging", "readings", "trust"};
+        for (String word : words) {
+            Check.loadError("x" + word.substring(1) + " a 1 0 1;", CrateScale.SYNTAX, 0);
+            Check.loadError(word.substring(0, word.length() - 1) + "x a 1 0 1;", CrateScale.SYNTAX, 0);
+            Check.loadError(word + "s a 1 0 1;", CrateScale.SYNTAX, 0);
+            Check.loadError(word.substring(1) + " a 1 0 1;", CrateScale.SYNTAX, 0);
+        }
+        Check.loadError("crate a 1 0;crate b 1 0 xn a;", CrateScale.SYNTAX, 24);
     }
 
     private static void wrongSetupNames() {
@@ -185,6 +209,23 @@ final class TextPromises {
         Check.same("undo takes the whole script back", Check.view(x), before);
         scriptsThatEndEarly();
         wrongScripts();
+        leastAndGreatestNumbers();
+    }
+
+    private static void leastAndGreatestNumbers() {
+        CrateScale x = new CrateScale();
+        Check.same("the greatest numbers", Check.run(x, "weigh pear 50;add plum 500;noise 50;aging 100;remove plum 500;add plum 499;"), 6);
+        Check.same("what they did", x.readingCount(1) + " " + x.goodsOf(2) + " " + x.amplitude() + " " + x.aging(), "50 499 50 100");
+        Check.same("the least numbers", Check.run(x, "weigh pear 1;add plum 1;noise 0;aging 1;remove fig 1;add plum 1;"), 5);
+        Check.same("what they did", x.totalReadings() + " " + x.goodsOf(2) + " " + x.goodsOf(3) + " " + x.amplitude() + " "
+            + x.aging(), "51 500 8 0 1");
+        String[] words = {"weigh", "add", "remove", "move", "takeout", "spring", "sell", "noise", "aging"};
+        for (String word : words) {
+            Check.scriptError("x" + word.substring(1) + " apple 1;", CrateScale.SYNTAX, 0);
+            Check.scriptError(word + "s apple 1;", CrateScale.SYNTAX, 0);
+        }
+        Check.scriptError("move apple xnto fig;", CrateScale.SYNTAX, 11);
+        Check.scriptError("sell apple xo amy;", CrateScale.SYNTAX, 11);
     }
 
     private static void scriptsThatEndEarly() {

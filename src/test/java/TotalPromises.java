@@ -124,6 +124,20 @@ final class TotalPromises {
         y.takeOut(1);
         y.restoreState();
         Check.isTrue("after undo and restore", y.isConsistent());
+        CrateScale z = Check.yard("crate a 1 0;crate b 1 0 in a;crate c 1 0 in b;crate d 1 0 in c;crate e 1 0 in d;"
+            + "crate f 1 0 in e;noise 50;aging 1;buyer p 9 9 9;");
+        Check.isTrue("as deep as can be", z.isConsistent());
+        Check.weighOften(z, 0, 5);
+        z.addGoods(5, 7);
+        Check.isTrue("sags are discarded with their readings", z.isConsistent());
+        Check.weighOften(z, 0, 5);
+        Check.isTrue("with sags", z.isConsistent());
+        z.saveState();
+        z.takeOut(5);
+        z.undo();
+        Check.isTrue("undo brings the sags back", z.isConsistent());
+        z.restoreState();
+        Check.isTrue("restoring, too", z.isConsistent());
     }
 
     static void promise50() {

@@ -1098,23 +1098,27 @@ public final class CrateScale {
         int count;
 
         History() {
-            for (int i = 0; i < past.length; i++) {
+            for (int i = 0; i < MAX_CHANGES; i++) {
                 past[i] = new Yard();
             }
         }
 
         void remember(Yard yard) {
-            past[next].copyFrom(yard);
-            next = (next + 1) % MAX_CHANGES;
+            slot().copyFrom(yard);
+            next++;
             count = Math.min(count + 1, MAX_CHANGES);
         }
 
         void restoreLatest(Yard yard) {
             if (count > 0) {
-                next = (next + MAX_CHANGES - 1) % MAX_CHANGES;
+                next--;
                 count--;
-                yard.copyFrom(past[next]);
+                yard.copyFrom(slot());
             }
+        }
+
+        private Yard slot() {
+            return past[Math.floorMod(next, MAX_CHANGES)];
         }
 
         void forget() {
@@ -1279,13 +1283,13 @@ public final class CrateScale {
             return number;
         }
 
-        boolean isSemicolon() {
+        boolean requireSemicolon() {
             return kind == SEMICOLON || fail(SYNTAX);
         }
 
         boolean nextSemicolon() {
             advance();
-            return isSemicolon();
+            return requireSemicolon();
         }
     }
 
@@ -1340,13 +1344,13 @@ public final class CrateScale {
             Crate outer = null;
             text.advance();
             if (text.isWord("in")) {
-                if (!text.nextName() || !isOuter()) {
+                if (!text.nextName() || !requireOuter()) {
                     return false;
                 }
                 outer = draft.crateNamed(text.name());
                 text.advance();
             }
-            if (!text.isSemicolon()) {
+            if (!text.requireSemicolon()) {
                 return false;
             }
             Crate crate = draft.addCrate(name, tare, goods);
@@ -1356,7 +1360,7 @@ public final class CrateScale {
             return true;
         }
 
-        private boolean isOuter() {
+        private boolean requireOuter() {
             Crate outer = draft.crateNamed(text.name());
             if (outer == null) {
                 return text.fail(UNKNOWN_NAME);

@@ -1,4 +1,7 @@
 import java.util.Objects;
+import java.util.function.Consumer;
+import java.util.function.Function;
+import java.util.function.Supplier;
 
 /** Counts what is as due and prints what is not. */
 final class Check {
@@ -106,8 +109,8 @@ final class Check {
 
     static String output(CrateScale x) {
         StringBuilder text = new StringBuilder();
-        for (int i = 0; x.outputByte(i) != CrateScale.NONE; i++) {
-            text.append((char) x.outputByte(i));
+        for (int next = x.outputByte(0); next != CrateScale.NONE; next = x.outputByte(text.length())) {
+            text.append((char) next);
         }
         return text.toString();
     }
@@ -146,5 +149,59 @@ final class Check {
         text.append(' ').append(x.totalDiscarded()).append(' ').append(x.springsReplaced()).append(' ');
         text.append(x.salesCount()).append(' ').append(x.totalPrices()).append(' ').append(x.totalRefunds());
         return text.toString();
+    }
+
+    /** A small yard with something in every corner: two crates left it, and there is input, output and an error. */
+    static CrateScale busy() {
+        CrateScale x = yard("crate a 3 497;crate b 2 0 in a;crate d 4 40;crate e 5 50 in d;buyer p 900 5 50;buyer q 9 0 9;"
+            + "noise 7;seed 3;aging 2;readings 2;trust 10;");
+        run(x, "weigh a 2;weigh b 1;");
+        x.saveState();
+        run(x, "weigh d 2;weigh e 3;sell d to p;");
+        x.weigh(0);
+        x.writeTree(0);
+        run(x, "?");
+        type(x, "noise 9;weigh b 1;");
+        return x;
+    }
+
+    /** All that can ever be seen of the object. It uses the object up: its changes are undone and its input is run. */
+    static String whole(CrateScale x) {
+        StringBuilder text = new StringBuilder();
+        text.append(x.errorCode()).append(' ').append(x.errorOffset()).append(' ').append(output(x)).append('\n');
+        text.append(view(x)).append(x.isConsistent());
+        for (boolean isMore = true; isMore;) {
+            isMore = appendAnswer(text, "undo", () -> x.undo());
+            text.append(isMore ? view(x) : "");
+        }
+        appendAnswer(text, "restore", () -> x.restoreState());
+        text.append(view(x)).append(x.appendInput(0x20202020, 0x20202020, 0x20202020, 0x20202020, 0x20202020));
+        text.append(' ').append(x.runScript()).append(' ').append(x.errorCode()).append(' ').append(x.errorOffset());
+        return text.append(view(x)).toString();
+    }
+
+    private static boolean appendAnswer(StringBuilder text, String what, Supplier<Integer> call) {
+        text.append('\n').append(what).append(' ');
+        try {
+            text.append(call.get()).append('\n');
+            return true;
+        } catch (RuntimeException e) {
+            text.append(e.getClass().getSimpleName()).append('\n');
+            return false;
+        }
+    }
+
+    /** The call throws this exception, and nothing of the object is changed by it. */
+    static void refused(String what, Class<?> kind, Supplier<CrateScale> made, Consumer<CrateScale> call) {
+        CrateScale x = made.get();
+        fails(what, kind, () -> call.accept(x));
+        same(what + " leaves everything unchanged", whole(x), whole(made.get()));
+    }
+
+    /** The call answers this, and nothing of the object is changed by it. */
+    static void harmless(String what, Object due, Supplier<CrateScale> made, Function<CrateScale, Object> call) {
+        CrateScale x = made.get();
+        same(what, call.apply(x), due);
+        same(what + " leaves everything unchanged", whole(x), whole(made.get()));
     }
 }

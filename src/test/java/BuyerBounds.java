@@ -289,6 +289,9 @@ final class BuyerBounds {
     @Sentence(in = "Promise 41", says = "NONE if all buyers would refuse")
     static void allRefuse() {
         Check.same("no buyers", priced("").bestBuyer(0), CrateScale.NONE);
+        CrateScale free = Check.yard("crate a 1 0;noise 50;seed 65;readings 1;");
+        free.weigh(0);
+        Check.same("no buyers, though it costs nothing", free.bestBuyer(0), CrateScale.NONE);
         Check.same("one without the money", priced("buyer p 9 0 0;").bestBuyer(0), CrateScale.NONE);
         Check.same("six without the money", priced(IndexBounds.buyers(6)).bestBuyer(0), CrateScale.NONE);
         Check.same("a sold crate", Check.busy().bestBuyer(2), CrateScale.NONE);

@@ -16,14 +16,9 @@ final class ChangeBounds {
     /** The call is a change: one more can be undone, and undoing it leaves no trace. */
     private static void isChange(String what, Consumer<CrateScale> call) {
         CrateScale x = Check.busy();
-        String before = Check.view(x);
         call.accept(x);
         Check.same("changes before " + what, x.undo(), 3);
-        Check.same("undone: " + what, Check.view(x), before);
-        CrateScale y = Check.busy();
-        y.replaceSpring();
-        y.undo();
-        Check.same("all that can be seen after undoing " + what, Check.whole(x), Check.whole(y));
+        Check.same("all that can be seen after undoing " + what, Check.whole(x), Check.whole(Check.busy()));
     }
 
     @Sentence(in = "Terms 5", says = "A method that is described as a change can be undone if it did not throw")

@@ -200,22 +200,30 @@ final class ChangePromises {
     static void promise60() {
         CrateScale x = new CrateScale();
         Check.element("nothing to undo", () -> x.undo());
-        String[] views = new String[11];
-        for (int i = 0; i <= 10; i++) {
-            views[i] = Check.view(x);
-            if (i < 10) {
-                step(x, i);
+        for (int undone = 1; undone <= 8; undone++) {
+            CrateScale y = stepped(10);
+            for (int i = 1; i <= undone; i++) {
+                Check.same("undo " + i, y.undo(), 8 - i);
             }
+            Check.same("as before change " + (11 - undone), Check.view(y), Check.view(stepped(10 - undone)));
         }
-        for (int i = 7; i >= 0; i--) {
-            Check.same("undo " + i, x.undo(), i);
-            Check.same("as before change " + (i + 2), Check.view(x), views[i + 2]);
+        CrateScale last = stepped(10);
+        for (int i = 0; i < 8; i++) {
+            last.undo();
         }
-        Check.element("only eight", () -> x.undo());
-        Check.same("as before change 2", Check.view(x), views[2]);
+        Check.element("only eight", () -> last.undo());
+        Check.same("as before change 3", Check.view(last), Check.view(stepped(2)));
         x.weigh(2);
         Check.same("one new change", x.undo(), 0);
         whatUndoLeaves();
+    }
+
+    private static CrateScale stepped(int steps) {
+        CrateScale x = new CrateScale();
+        for (int i = 0; i < steps; i++) {
+            step(x, i);
+        }
+        return x;
     }
 
     private static void step(CrateScale x, int i) {

@@ -122,25 +122,15 @@ final class Check {
         return text;
     }
 
-    /** All that the object shows of its yard, for comparing two moments. */
+    /** All that the object shows of its yard, for comparing two moments, in few calls: an object has but 512. */
     static String view(CrateScale x) {
         StringBuilder text = new StringBuilder();
-        for (int c = 0; c < x.crateCount(); c++) {
-            text.append("crate ").append(x.tareOf(c)).append(' ').append(x.goodsOf(c)).append(' ').append(x.grossOf(c));
-            text.append(" in ").append(x.parentOf(c)).append(' ').append(x.isInYard(c)).append(" holds");
-            for (int i = 0; i < x.childCount(c); i++) {
-                text.append(' ').append(x.childOf(c, i));
-            }
-            text.append(" readings ").append(x.readingCount(c));
-            if (x.readingCount(c) > 0) {
-                text.append(' ').append(x.lastReading(c)).append(' ').append(x.exactMean(c));
-            }
-            if (x.isInYard(c)) {
-                text.append(" next ").append(x.predictReading(c)).append(' ').append(x.predictMean(c, 7));
-            }
-            text.append('\n');
+        int crates = x.crateCount();
+        for (int c = 0; c < crates; c++) {
+            viewOfCrate(x, c, text);
         }
-        for (int b = 0; b < x.buyerCount(); b++) {
+        int buyers = x.buyerCount();
+        for (int b = 0; b < buyers; b++) {
             text.append("buyer ").append(x.moneyOf(b)).append(' ').append(x.toleranceOf(b)).append(' ');
             text.append(x.trustOf(b)).append(' ').append(x.purchasesOf(b)).append('\n');
         }
@@ -149,6 +139,25 @@ final class Check {
         text.append(' ').append(x.totalDiscarded()).append(' ').append(x.springsReplaced()).append(' ');
         text.append(x.salesCount()).append(' ').append(x.totalPrices()).append(' ').append(x.totalRefunds());
         return text.toString();
+    }
+
+    private static void viewOfCrate(CrateScale x, int c, StringBuilder text) {
+        boolean isInYard = x.isInYard(c);
+        text.append("crate ").append(x.tareOf(c)).append(' ').append(x.goodsOf(c)).append(' ').append(x.grossOf(c));
+        text.append(" in ").append(x.parentOf(c)).append(' ').append(isInYard).append(" holds");
+        int children = x.childCount(c);
+        for (int i = 0; i < children; i++) {
+            text.append(' ').append(x.childOf(c, i));
+        }
+        int readings = x.readingCount(c);
+        text.append(" readings ").append(readings);
+        if (readings > 0) {
+            text.append(' ').append(x.lastReading(c)).append(' ').append(x.exactMean(c));
+        }
+        if (isInYard) {
+            text.append(" next ").append(x.predictReading(c)).append(' ').append(x.predictMean(c, 3));
+        }
+        text.append('\n');
     }
 
     /** A small yard with something in every corner: two crates left it, and there is input, output and an error. */

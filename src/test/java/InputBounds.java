@@ -286,6 +286,35 @@ final class InputBounds {
         Check.scriptError("weigh fig 1 1;", CrateScale.SYNTAX, 12);
     }
 
+    @Sentence(in = "Terms 4", says = "SYNTAX: the token is not allowed at its place")
+    static void wordsOneLetterOff() {
+        for (String word : new String[] {"crate", "buyer", "noise", "seed", "aging", "readings", "trust"}) {
+            for (String off : oneLetterOff(word)) {
+                Check.loadError(off + " 5;", CrateScale.SYNTAX, 0);
+            }
+        }
+        for (String word : new String[] {"weigh", "add", "remove", "move", "takeout", "spring", "sell", "noise", "aging"}) {
+            for (String off : oneLetterOff(word)) {
+                Check.scriptError(off + " fig;", CrateScale.SYNTAX, 0);
+            }
+        }
+        for (String off : oneLetterOff("in")) {
+            Check.loadError("crate a 1 0;crate b 1 0 " + off + " a;", CrateScale.SYNTAX, 24);
+        }
+        for (String off : oneLetterOff("into")) {
+            Check.scriptError("move fig " + off + " plum;", CrateScale.SYNTAX, 9);
+        }
+        for (String off : oneLetterOff("to")) {
+            Check.scriptError("sell fig " + off + " amy;", CrateScale.SYNTAX, 9);
+        }
+    }
+
+    private static String[] oneLetterOff(String word) {
+        int last = word.length() - 1;
+        return new String[] {"x" + word.substring(1), word.substring(0, last) + "x", word.substring(0, last), word + "x",
+            "x" + word, word.substring(1) + word.charAt(0)};
+    }
+
     @Sentence(in = "Terms 4", says = "OUT_OF_RANGE: a number is out of its range.")
     static void numbersFarOutOfTheirRanges() {
         for (String text : new String[] {"noise ", "aging ", "readings ", "trust "}) {

@@ -179,6 +179,14 @@ final class Model {
         loadYard();
     }
 
+    List<String> crateNames() {
+        return now.crateNames;
+    }
+
+    List<String> buyerNames() {
+        return now.buyerNames;
+    }
+
     /** The answer of a call, as text; an exception is throws. and its name. */
     String call(String name, int... a) {
         try {

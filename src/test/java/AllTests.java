@@ -8,7 +8,8 @@ public final class AllTests {
     private static final Class<?>[] GROUPS = {TextPromises.class, CratePromises.class, SettingPromises.class,
         BuyerPromises.class, TotalPromises.class, ChangePromises.class, OutputPromises.class};
 
-    private static final Class<?>[] BOUNDS = {YardBounds.class, ReadingBounds.class, PredictionBounds.class, BuyerBounds.class,
+    private static final Class<?>[] QUOTING = {CrateAnswers.class, ForecastAnswers.class, BuyerAnswers.class, ChangeAnswers.class,
+        TextAnswers.class, YardBounds.class, ReadingBounds.class, PredictionBounds.class, BuyerBounds.class,
         InputBounds.class, SetupBounds.class, ScriptBounds.class, ChangeBounds.class, OutputBounds.class};
 
     private AllTests() {
@@ -27,7 +28,7 @@ public final class AllTests {
         for (int i = 1; i <= PROMISES; i++) {
             Check.isTrue("a test of promise " + i, tested.contains(i));
         }
-        boundaries();
+        sentences();
         FaceRules.all();
         ModelRuns.all(args.length > 0 ? Integer.parseInt(args[0]) : 400);
         System.out.println(Check.passed + " passed, " + Check.failed + " failed");
@@ -36,21 +37,23 @@ public final class AllTests {
         }
     }
 
-    /** Each sentence of the document that names a boundary has a test that says so. */
-    private static void boundaries() throws IllegalAccessException {
+    /** Each sentence of the document has a test that quotes it. */
+    private static void sentences() throws IllegalAccessException {
         Document document = new Document();
-        for (Class<?> group : BOUNDS) {
+        for (Class<?> group : QUOTING) {
             for (Method test : group.getDeclaredMethods()) {
                 Sentence sentence = test.getAnnotation(Sentence.class);
                 if (sentence != null) {
-                    String what = group.getName() + "." + test.getName() + " quotes " + sentence.in() + ": " + sentence.says();
-                    Check.isTrue(what, document.isTold(sentence.in(), sentence.says()));
+                    for (String says : sentence.says()) {
+                        String what = group.getName() + "." + test.getName() + " quotes " + sentence.in() + ": " + says;
+                        Check.isTrue(what, document.isTold(sentence.in(), says));
+                    }
                     run(test);
                 }
             }
         }
         IndexBounds.all(document);
-        Check.same("sentences without a boundary test", String.join("\n", document.untested()), "");
+        Check.same("sentences without a test", String.join("\n", document.untested()), "");
     }
 
     private static void run(Method test) throws IllegalAccessException {

@@ -4,7 +4,9 @@ import java.nio.file.Files;
 import java.nio.file.Path;
 import java.util.ArrayList;
 import java.util.Comparator;
+import java.util.HashSet;
 import java.util.List;
+import java.util.Set;
 import java.util.regex.Matcher;
 import java.util.regex.Pattern;
 import java.util.stream.Stream;
@@ -33,6 +35,7 @@ public final class ReadmeRuns {
             delete(base);
         }
         codesAreAsNamed(text);
+        statementsAreTheDocuments(text);
         methodsAreKnown(text);
         System.out.println("README.md: " + Check.passed + " passed, " + Check.failed + " failed");
         if (Check.failed != 0) {
@@ -78,6 +81,17 @@ public final class ReadmeRuns {
             }
         }
         Check.same("codes", rows, 8);
+    }
+
+    private static void statementsAreTheDocuments(String text) throws IOException {
+        String document = Files.readString(Path.of("../shared/DOC.md"));
+        Matcher statement = Pattern.compile("`([a-zA-Z ]+);`").matcher(text);
+        Set<String> found = new HashSet<>();
+        while (statement.find()) {
+            found.add(statement.group(1));
+            Check.isTrue(statement.group(1) + " is a statement", document.contains("  " + statement.group(1)));
+        }
+        Check.same("statements of a setup and of a script, noise and aging being of both", found.size(), 8 + 9 - 2);
     }
 
     /** What stands in the text as a name of a method is one. */

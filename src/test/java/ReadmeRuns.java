@@ -1,5 +1,6 @@
 import java.io.File;
 import java.io.IOException;
+import java.nio.file.FileVisitOption;
 import java.nio.file.Files;
 import java.nio.file.Path;
 import java.util.ArrayList;
@@ -107,7 +108,7 @@ public final class ReadmeRuns {
     }
 
     private static void copy(Path from, Path to) throws IOException {
-        try (Stream<Path> files = Files.walk(from)) {
+        try (Stream<Path> files = Files.walk(from, FileVisitOption.FOLLOW_LINKS)) {
             for (Path file : (Iterable<Path>) files::iterator) {
                 Path target = to.resolve(from.relativize(file).toString());
                 if (Files.isDirectory(file)) {
